@@ -1,509 +1,481 @@
 /** Promises 1 to 10: a new object, and the changes. */
 public final class ChangesTest {
-    private static final Checks CHECKS = new Checks();
+    private static final int NO_SUCH = -1, BAD_VALUE = -2, TOO_MANY = -4, NOT_POSSIBLE = -5, NONE = -6;
+    private static final int OATH = 2, PEACE = 3;
+    private static final int LEAST = Integer.MIN_VALUE, MOST = Integer.MAX_VALUE;
+    private static final String NEW = "Promise 1: A new object", SET = "Promise 2: set", PERSON = "Promise 3: person",
+        SECOND = "Promise 4: second", ALLOW = "Promise 5: allow", INSULT = "Promise 6: insult", SETTLE = "Promise 7: settle",
+        FIGHT = "Promise 8: fight", SWEAR = "Promise 9: swear", PASS = "Promise 10: pass";
+    private static final Sentences DOC = new Sentences(NEW, SET, PERSON, SECOND, ALLOW, INSULT, SETTLE, FIGHT, SWEAR, PASS);
 
-    private static void due(String call, long got, long want) {
-        CHECKS.due(call, got, want);
+    /** Calls that the busy town refuses, with each of some values that are out of a range. */
+    private interface With {
+        int call(Ways ways, int value);
     }
 
-    /** That a call which fails leaves everything as it is, the history too. */
-    private interface Call {
-        int on(QuarrelWays ways);
+    private static void refuses(String name, int error, With with, int... values) {
+        for (int value : values) {
+            DOC.keeps(Towns::busy, name + " with " + value, x -> with.call(x, value), error);
+        }
     }
 
-    private static void fails(QuarrelWays ways, String call, int error, Call made) {
-        String before = Checks.view(ways);
-        int undoable = ways.count(14);
-        due(call, made.on(ways), error);
-        CHECKS.holds(call + " changes nothing", before.equals(Checks.view(ways)));
-        due(call + " records nothing: count(14)", ways.count(14), undoable);
-    }
-
-    /** Two persons of much pride, no way open between them at once but by the code's own words. */
-    private static QuarrelWays proudPair() {
-        QuarrelWays ways = new QuarrelWays();
-        ways.person(9, 4);
-        ways.person(9, 4);
+    private static Ways busy() {
+        Ways ways = new Ways();
+        Towns.busy(ways);
         return ways;
     }
 
+    // ---- Promise 1
+
     private static void newObject() {
-        CHECKS.of("promise 1");
-        QuarrelWays ways = new QuarrelWays();
+        DOC.of(NEW, "Creates a town without persons, at the hour 0.");
+        Ways ways = new Ways();
         int[] first = {0, 0, 0, 0, 0, 0, 0, 31, 0, 12, 24, 72, 100, 0, 0};
         for (int what = 0; what < first.length; what++) {
-            due("count(" + what + ")", ways.count(what), first[what]);
+            DOC.due("count(" + what + ")", ways.count(what), first[what]);
         }
-        due("of(0, 0)", ways.of(0, 0), -1);
-        due("quarrel(0, 0)", ways.quarrel(0, 0), -1);
-        due("record(0, 0)", ways.record(0, 0), -1);
-        due("pressing(0)", ways.pressing(0), -1);
-        due("insults(1)", ways.insults(1), 0);
-        due("fault()", ways.fault(), 0);
-        due("undo()", ways.undo(), -5);
-        due("restore(0)", ways.restore(0), -5);
-        due("restore(1)", ways.restore(1), -5);
-        QuarrelWays other = new QuarrelWays();
-        ways.person(1, 2);
-        due("another object's count(1)", other.count(1), 0);
+        DOC.due("of(0, 0)", ways.of(0, 0), NO_SUCH);
+        DOC.due("quarrel(0, 0)", ways.quarrel(0, 0), NO_SUCH);
+        DOC.due("record(0, 0)", ways.record(0, 0), NO_SUCH);
+        DOC.due("pressing(0)", ways.pressing(0), NO_SUCH);
+        DOC.due("insults(1)", ways.insults(1), 0);
+        DOC.due("fault()", ways.fault(), 0);
+        DOC.due("undo()", ways.undo(), NOT_POSSIBLE);
+        DOC.due("restore(0)", ways.restore(0), NOT_POSSIBLE);
+        DOC.due("restore(1)", ways.restore(1), NOT_POSSIBLE);
+        Ways other = new Ways();
+        Towns.busy(ways);
+        DOC.due("another object's count(1)", other.count(1), 0);
+        DOC.due("another object's count(14)", other.count(14), 0);
     }
+
+    // ---- Promise 2
 
     private static void settings() {
-        CHECKS.of("promise 2");
-        int[] lowest = {1, 0, 1, 0};
-        int[] highest = {48, 99, 200, 400};
+        DOC.of(SET, "Changes a setting.");
         int[] first = {12, 24, 72, 100};
         for (int setting = 0; setting < 4; setting++) {
-            QuarrelWays ways = new QuarrelWays();
-            int low = lowest[setting];
-            int high = highest[setting];
-            int number = setting;
-            due("set(" + setting + ", lowest)", ways.set(setting, low), first[setting]);
-            due("count of it", ways.count(9 + setting), low);
-            due("set(" + setting + ", highest)", ways.set(setting, high), low);
-            due("count of it", ways.count(9 + setting), high);
-            fails(ways, "set(" + setting + ", too low)", -2, x -> x.set(number, low - 1));
-            fails(ways, "set(" + setting + ", too high)", -2, x -> x.set(number, high + 1));
-            fails(ways, "set(" + setting + ", least int)", -2, x -> x.set(number, Integer.MIN_VALUE));
-            fails(ways, "set(" + setting + ", most int)", -2, x -> x.set(number, Integer.MAX_VALUE));
-            due("set(" + setting + ", the same)", ways.set(setting, high), high);
-            due("count(14)", ways.count(14), 3);
+            Ways ways = new Ways();
+            ways.set(setting, 40);
             for (int other = 0; other < 4; other++) {
-                due("count(" + (9 + other) + ")", ways.count(9 + other), other == setting ? high : first[other]);
+                DOC.due("count(" + (9 + other) + ")", ways.count(9 + other), other == setting ? 40 : first[other]);
             }
         }
-        QuarrelWays ways = new QuarrelWays();
-        fails(ways, "set(4, 1)", -2, x -> x.set(4, 1));
-        fails(ways, "set(-1, 1)", -2, x -> x.set(-1, 1));
-        fails(ways, "set(most int, 1)", -2, x -> x.set(Integer.MAX_VALUE, 1));
-        fails(ways, "set(least int, 1)", -2, x -> x.set(Integer.MIN_VALUE, 1));
+        DOC.of(SET, "This is a change.");
+        for (int setting = 0; setting < 4; setting++) {
+            int number = setting;
+            DOC.records(Towns::busy, "set(" + setting + ", 30)", x -> x.set(number, 30));
+            DOC.records(x -> x.person(1, 1), "set to what it was", x -> x.set(number, first[number]));
+        }
+        DOC.of(SET, "Returns the previous value;");
+        Ways ways = new Ways();
+        DOC.due("set(NOTICE, 0)", ways.set(1, 0), 24);
+        DOC.due("set(NOTICE, 99)", ways.set(1, 99), 0);
+        DOC.due("set(NOTICE, 99)", ways.set(1, 99), 99);
+        DOC.due("set(NOTICE, 98)", ways.set(1, 98), 99);
+        ways.undo();
+        DOC.due("set(NOTICE, 1) behind undo()", ways.set(1, 1), 99);
+        DOC.of(SET, "BAD_VALUE if there is no such setting, or the value is out of its range.");
+        refuses("set(setting, 1)", BAD_VALUE, (x, setting) -> x.set(setting, 1), -1, 4, 9, LEAST, MOST);
+        refuses("set(COOL, value)", BAD_VALUE, (x, value) -> x.set(0, value), 0, 49, -1, LEAST, MOST);
+        refuses("set(NOTICE, value)", BAD_VALUE, (x, value) -> x.set(1, value), -1, 100, LEAST, MOST);
+        refuses("set(OATH, value)", BAD_VALUE, (x, value) -> x.set(2, value), 0, 201, -1, LEAST, MOST);
+        refuses("set(PEACE, value)", BAD_VALUE, (x, value) -> x.set(3, value), -1, 401, LEAST, MOST);
     }
+
+    // ---- Promise 3
 
     private static void persons() {
-        CHECKS.of("promise 3");
-        QuarrelWays ways = new QuarrelWays();
-        due("person(0, 9)", ways.person(0, 9), 0);
-        due("person(9, 0)", ways.person(9, 0), 1);
-        due("of(0, 0)", ways.of(0, 0), 0);
-        due("of(0, 1)", ways.of(0, 1), 9);
-        due("of(1, 0)", ways.of(1, 0), 9);
-        due("of(1, 1)", ways.of(1, 1), 0);
-        due("of(1, 2)", ways.of(1, 2), -6);
-        due("of(1, 3)", ways.of(1, 3), 0);
-        fails(ways, "person(-1, 0)", -2, x -> x.person(-1, 0));
-        fails(ways, "person(10, 0)", -2, x -> x.person(10, 0));
-        fails(ways, "person(0, -1)", -2, x -> x.person(0, -1));
-        fails(ways, "person(0, 10)", -2, x -> x.person(0, 10));
-        fails(ways, "person(least, most)", -2, x -> x.person(Integer.MIN_VALUE, Integer.MAX_VALUE));
-        for (int person = 2; person < 10; person++) {
-            due("person(5, 5)", ways.person(5, 5), person);
+        DOC.of(PERSON, "A person comes.");
+        Ways ways = new Ways().wait(6);
+        ways.person(3, 7);
+        int[] told = {3, 7, NONE, 0, 0, 0, 0, 0, 0};
+        for (int what = 0; what < told.length; what++) {
+            DOC.due("of(0, " + what + ")", ways.of(0, what), told[what]);
         }
-        due("count(1)", ways.count(1), 10);
-        fails(ways, "an eleventh person", -4, x -> x.person(5, 5));
-        fails(ways, "an eleventh person of too much pride", -2, x -> x.person(10, 5));
-        due("count(1)", ways.count(1), 10);
-        due("record(0, 0)", ways.record(0, 0), -1);
+        DOC.due("count(1)", ways.count(1), 1);
+        DOC.due("it is no event: record(0, 0)", ways.record(0, 0), NO_SUCH);
+        DOC.of(PERSON, "This is a change.");
+        DOC.records(Towns::busy, "person(0, 0)", x -> x.person(0, 0));
+        DOC.records(x -> x.allow(0), "person(9, 9)", x -> x.person(9, 9));
+        DOC.of(PERSON, "`pride`: 0 to 9");
+        DOC.due("person(0, 4)", ways.person(0, 4), 1);
+        DOC.due("of(1, 0)", ways.of(1, 0), 0);
+        DOC.due("person(9, 4)", ways.person(9, 4), 2);
+        DOC.due("of(2, 0)", ways.of(2, 0), 9);
+        DOC.of(PERSON, "`tact`: 0 to 9");
+        DOC.due("person(4, 0)", ways.person(4, 0), 3);
+        DOC.due("of(3, 1)", ways.of(3, 1), 0);
+        DOC.due("person(4, 9)", ways.person(4, 9), 4);
+        DOC.due("of(4, 1)", ways.of(4, 1), 9);
+        DOC.of(PERSON, "Returns the number;");
+        for (int person = 5; person < 10; person++) {
+            DOC.due("person(1, 1)", ways.person(1, 1), person);
+        }
+        ways.undo();
+        DOC.due("behind undo(): person(1, 1)", ways.person(1, 1), 9);
+        DOC.of(PERSON, "BAD_VALUE if pride or tact is out of range;");
+        refuses("person(pride, 4)", BAD_VALUE, (x, pride) -> x.person(pride, 4), -1, 10, LEAST, MOST);
+        refuses("person(4, tact)", BAD_VALUE, (x, tact) -> x.person(4, tact), -1, 10, LEAST, MOST);
+        refuses("person(both, both)", BAD_VALUE, (x, both) -> x.person(both, both), -1, 10, LEAST, MOST);
+        DOC.of(PERSON, "TOO_MANY if there are 10.");
+        DOC.keeps(Towns::full, "person(5, 5)", x -> x.person(5, 5), TOO_MANY);
+        DOC.keeps(Towns::full, "person(0, 9)", x -> x.person(0, 9), TOO_MANY);
+        Ways nine = Towns.proud(9);
+        DOC.due("there are 9: person(5, 5)", nine.person(5, 5), 9);
+        DOC.due("there are 10: person(5, 5)", nine.person(5, 5), TOO_MANY);
     }
+
+    // ---- Promise 4
 
     private static void seconds() {
-        CHECKS.of("promise 4");
-        QuarrelWays ways = new QuarrelWays();
-        ways.person(1, 1);
-        ways.person(2, 2);
-        ways.person(3, 3);
-        due("second(0, 1)", ways.second(0, 1), -6);
-        due("count(14)", ways.count(14), 4);
-        due("of(0, 2)", ways.of(0, 2), 1);
-        due("second(0, 2)", ways.second(0, 2), 1);
-        due("of(0, 2)", ways.of(0, 2), 2);
-        due("second(0, 2)", ways.second(0, 2), 2);
-        due("second(2, 0)", ways.second(2, 0), -6);
-        due("count(14)", ways.count(14), 6);
-        due("of(1, 2)", ways.of(1, 2), -6);
-        fails(ways, "second(3, 0)", -1, x -> x.second(3, 0));
-        fails(ways, "second(0, 3)", -1, x -> x.second(0, 3));
-        fails(ways, "second(-1, 0)", -1, x -> x.second(-1, 0));
-        fails(ways, "second(0, -6)", -1, x -> x.second(0, -6));
-        fails(ways, "second(3, 3)", -1, x -> x.second(3, 3));
-        fails(ways, "second(1, 1)", -2, x -> x.second(1, 1));
-        due("record(0, 0)", ways.record(0, 0), -1);
+        DOC.of(SECOND, "A person takes a second.");
+        Ways ways = Towns.proud(10);
+        ways.second(0, 9);
+        ways.second(9, 0);
+        DOC.due("of(0, 2)", ways.of(0, 2), 9);
+        DOC.due("of(9, 2)", ways.of(9, 2), 0);
+        DOC.due("of(1, 2)", ways.of(1, 2), NONE);
+        DOC.due("it is no event: record(0, 0)", ways.record(0, 0), NO_SUCH);
+        DOC.of(SECOND, "This is a change.");
+        DOC.records(Towns::busy, "second(2, 4), the first", x -> x.second(2, 4));
+        DOC.records(Towns::busy, "second(0, 4), another", x -> x.second(0, 4));
+        DOC.records(Towns::busy, "second(0, 3), the same again", x -> x.second(0, 3));
+        DOC.records(x -> x.people(2, 1, 1), "second(0, 1)", x -> x.second(0, 1));
+        DOC.of(SECOND, "Returns the previous one (NONE);");
+        DOC.due("second(5, 0)", ways.second(5, 0), NONE);
+        DOC.due("second(5, 9)", ways.second(5, 9), 0);
+        DOC.due("second(5, 9)", ways.second(5, 9), 9);
+        DOC.due("second(5, 4)", ways.second(5, 4), 9);
+        DOC.of(SECOND, "NO_SUCH if there is no such person;");
+        refuses("second(person, 0)", NO_SUCH, (x, person) -> x.second(person, 0), -1, 5, 10, NONE, LEAST, MOST);
+        refuses("second(0, second)", NO_SUCH, (x, second) -> x.second(0, second), -1, 5, 10, NONE, LEAST, MOST);
+        refuses("second(both, both)", NO_SUCH, (x, both) -> x.second(both, both), -1, 5, 10, NONE, LEAST, MOST);
+        DOC.due("of no persons: second(0, 1)", new Ways().second(0, 1), NO_SUCH);
+        DOC.of(SECOND, "BAD_VALUE if both are the same.");
+        refuses("second(both, both)", BAD_VALUE, (x, both) -> x.second(both, both), 0, 1, 2, 3, 4);
     }
+
+    // ---- Promise 5
 
     private static void allowing() {
-        CHECKS.of("promise 5");
+        DOC.of(ALLOW, "Allows a way, or bars it, if it is allowed.");
+        Ways ways = new Ways();
+        ways.allow(3);
+        DOC.due("barred: count(7)", ways.count(7), 23);
+        ways.allow(3);
+        DOC.due("allowed again: count(7)", ways.count(7), 31);
+        DOC.of(ALLOW, "This is a change.");
         for (int way = 0; way < 5; way++) {
-            QuarrelWays ways = new QuarrelWays();
-            due("allow(" + way + ")", ways.allow(way), 31 ^ 1 << way);
-            due("count(7)", ways.count(7), 31 ^ 1 << way);
-            due("allow(" + way + ") again", ways.allow(way), 31);
-            due("count(14)", ways.count(14), 2);
-            fails(ways, "allow(5)", -1, x -> x.allow(5));
-            fails(ways, "allow(-1)", -1, x -> x.allow(-1));
-            fails(ways, "allow(32)", -1, x -> x.allow(32));
+            int number = way;
+            DOC.records(Towns::busy, "allow(" + way + ") that bars", x -> x.allow(number));
+            DOC.records(x -> x.allow(number), "allow(" + way + ") that allows", x -> x.allow(number));
         }
-        QuarrelWays ways = new QuarrelWays();
-        due("allow(1)", ways.allow(1), 29);
-        due("allow(3)", ways.allow(3), 21);
-        due("allow(1)", ways.allow(1), 23);
+        DOC.of(ALLOW, "`way`: 0 to 4");
+        for (int way = 0; way < 5; way++) {
+            DOC.due("allow(" + way + ")", new Ways().allow(way), 31 - (1 << way));
+        }
+        DOC.of(ALLOW, "Returns the ways that are allowed then, as a set;");
+        int[] barred = {30, 28, 24, 16, 0};
+        int[] allowed = {1, 3, 7, 15, 31};
+        for (int way = 0; way < 5; way++) {
+            DOC.due("allow(" + way + ")", ways.allow(way), barred[way]);
+        }
+        for (int way = 0; way < 5; way++) {
+            DOC.due("allow(" + way + ") again", ways.allow(way), allowed[way]);
+        }
+        DOC.of(ALLOW, "NO_SUCH if there is no such way.");
+        refuses("allow(way)", NO_SUCH, (x, way) -> x.allow(way), -1, 5, 31, 32, 36, LEAST, MOST);
     }
+
+    // ---- Promise 6
 
     private static void insulting() {
-        CHECKS.of("promise 6");
-        QuarrelWays ways = new QuarrelWays();
-        for (int person = 0; person < 8; person++) {
-            ways.person(9, 5);
-        }
+        DOC.of(INSULT, "An insult: a quarrel comes.");
+        Ways ways = Towns.proud(3);
         ways.pass(7);
-        due("insult(3, 1, 9)", ways.insult(3, 1, 9), 0);
-        int[] told = {3, 1, 9, 0, 0, -6, -6, 0};
+        ways.insult(2, 1, 9);
+        int[] told = {2, 1, 9, 0, 0, NONE, NONE, 0};
         for (int what = 0; what < told.length; what++) {
-            due("quarrel(0, " + what + ")", ways.quarrel(0, what), told[what]);
+            DOC.due("quarrel(0, " + what + ")", ways.quarrel(0, what), told[what]);
         }
-        due("record(0, 0)", ways.record(0, 0), 0);
-        due("record(0, 1)", ways.record(0, 1), 7);
-        due("record(0, 2)", ways.record(0, 2), 0);
-        due("insult(0, 1, 1)", ways.insult(0, 1, 1), 1);
-        due("quarrel(1, 2)", ways.quarrel(1, 2), 1);
-        fails(ways, "insult(8, 0, 5)", -1, x -> x.insult(8, 0, 5));
-        fails(ways, "insult(0, 8, 5)", -1, x -> x.insult(0, 8, 5));
-        fails(ways, "insult(-1, 0, 5)", -1, x -> x.insult(-1, 0, 5));
-        fails(ways, "insult(0, -1, 5)", -1, x -> x.insult(0, -1, 5));
-        fails(ways, "insult(8, 8, 0)", -1, x -> x.insult(8, 8, 0));
-        fails(ways, "insult(0, 8, 0)", -1, x -> x.insult(0, 8, 0));
-        fails(ways, "insult(2, 2, 5)", -2, x -> x.insult(2, 2, 5));
-        fails(ways, "insult(2, 4, 0)", -2, x -> x.insult(2, 4, 0));
-        fails(ways, "insult(2, 4, 10)", -2, x -> x.insult(2, 4, 10));
-        fails(ways, "insult(3, 1, 10)", -2, x -> x.insult(3, 1, 10));
-        fails(ways, "insult(3, 1, 5)", -5, x -> x.insult(3, 1, 5));
-        fails(ways, "insult(1, 3, 5)", -5, x -> x.insult(1, 3, 5));
-        for (int quarrel = 2; quarrel < 9; quarrel++) {
-            due("a quarrel more", ways.insult(7, quarrel - 2, 9), quarrel);
+        int[] event = {0, 7, 0};
+        for (int what = 0; what < event.length; what++) {
+            DOC.due("record(0, " + what + ")", ways.record(0, what), event[what]);
         }
-        for (int quarrel = 9; quarrel < 12; quarrel++) {
-            due("a quarrel more", ways.insult(6, quarrel - 7, 9), quarrel);
+        DOC.due("count(2)", ways.count(2), 1);
+        DOC.due("count(3)", ways.count(3), 1);
+        DOC.of(INSULT, "This is a change.");
+        DOC.records(Towns::busy, "insult(0, 1, 5)", x -> x.insult(0, 1, 5));
+        DOC.records(x -> x.people(2, 1, 1), "insult(1, 0, 9)", x -> x.insult(1, 0, 9));
+        DOC.of(INSULT, "`rank`: 1 to 9");
+        DOC.due("insult(0, 1, 1)", ways.insult(0, 1, 1), 1);
+        DOC.due("quarrel(1, 2)", ways.quarrel(1, 2), 1);
+        DOC.due("insult(0, 2, 9)", ways.insult(0, 2, 9), 2);
+        DOC.due("quarrel(2, 2)", ways.quarrel(2, 2), 9);
+        DOC.of(INSULT, "Returns its number;");
+        Ways many = Towns.proud(10);
+        for (int quarrel = 0; quarrel < 9; quarrel++) {
+            DOC.due("insult(9, " + quarrel + ", 5)", many.insult(9, quarrel, 5), quarrel);
         }
-        due("count(2)", ways.count(2), 12);
-        fails(ways, "a thirteenth insult", -4, x -> x.insult(4, 5, 9));
-        fails(ways, "a thirteenth insult of an open quarrel", -5, x -> x.insult(1, 3, 9));
-        fails(ways, "a thirteenth insult of a bad rank", -2, x -> x.insult(4, 5, 10));
-        QuarrelWays again = new QuarrelWays();
-        again.person(1, 1);
-        again.person(1, 1);
-        again.insult(0, 1, 1);
-        again.settle(0, 0);
-        due("insult behind a settled quarrel", again.insult(1, 0, 1), 1);
+        many.undo();
+        DOC.due("behind undo()", many.insult(9, 7, 5), NOT_POSSIBLE);
+        DOC.due("behind undo()", many.insult(9, 8, 5), 8);
     }
 
-    private static void apology() {
-        CHECKS.of("promise 7, apology");
-        QuarrelWays ways = new QuarrelWays();
-        ways.person(4, 4);
-        ways.person(8, 4);
-        ways.set(QuarrelWays.PEACE, 0);
-        ways.insult(0, 1, 6);
-        due("pride 4 and rank 6: quarrel(0, 7)", ways.quarrel(0, 7), 0);
-        fails(ways, "settle(0, 0)", -5, x -> x.settle(0, 0));
-        QuarrelWays other = new QuarrelWays();
-        other.person(4, 4);
-        other.person(8, 4);
-        other.insult(0, 1, 5);
-        due("pride 4 and rank 5: quarrel(0, 7)", other.quarrel(0, 7), 1);
-        other.insult(1, 0, 1);
-        due("settle(0, 0)", other.settle(0, 0), 0);
-        due("of(0, 0)", other.of(0, 0), 3);
-        due("of(1, 0)", other.of(1, 0), 8);
-        due("of(0, 1)", other.of(0, 1), 4);
-        due("quarrel(0, 4)", other.quarrel(0, 4), 1);
-        due("quarrel(0, 5)", other.quarrel(0, 5), 0);
-        due("quarrel(0, 6)", other.quarrel(0, 6), -6);
-        due("quarrel(0, 7)", other.quarrel(0, 7), 0);
-        QuarrelWays humble = new QuarrelWays();
-        humble.person(0, 4);
-        humble.person(8, 4);
-        humble.insult(0, 1, 9);
-        humble.settle(0, 0);
-        due("pride stays 0: of(0, 0)", humble.of(0, 0), 0);
-        humble = new QuarrelWays();
-        humble.person(0, 4);
-        humble.person(8, 4);
-        humble.allow(0);
-        humble.insult(0, 1, 1);
-        fails(humble, "settle(0, 0) barred", -5, x -> x.settle(0, 0));
+    private static void insultsRefused() {
+        DOC.of(INSULT, "NO_SUCH if there is no such person;");
+        refuses("insult(offender, 0, 5)", NO_SUCH, (x, offender) -> x.insult(offender, 0, 5), -1, 5, 10, LEAST, MOST);
+        refuses("insult(0, offended, 5)", NO_SUCH, (x, offended) -> x.insult(0, offended, 5), -1, 5, 10, LEAST, MOST);
+        refuses("insult(both, both, 5)", NO_SUCH, (x, both) -> x.insult(both, both, 5), -1, 5, LEAST, MOST);
+        refuses("insult(0, 5, rank)", NO_SUCH, (x, rank) -> x.insult(0, 5, rank), 0, 10, LEAST, MOST);
+        DOC.of(INSULT, "BAD_VALUE if both are the same, or rank is out of range;");
+        refuses("insult(both, both, 5)", BAD_VALUE, (x, both) -> x.insult(both, both, 5), 0, 1, 2, 3, 4);
+        refuses("insult(0, 4, rank)", BAD_VALUE, (x, rank) -> x.insult(0, 4, rank), -1, 0, 10, LEAST, MOST);
+        refuses("insult(2, 3, rank) of an open quarrel", BAD_VALUE, (x, rank) -> x.insult(2, 3, rank), 0, 10);
+        DOC.of(INSULT, "NOT_POSSIBLE if both have an open quarrel;");
+        refuses("insult(2, 3, rank)", NOT_POSSIBLE, (x, rank) -> x.insult(2, 3, rank), 1, 5, 9);
+        refuses("insult(3, 2, rank)", NOT_POSSIBLE, (x, rank) -> x.insult(3, 2, rank), 1, 5, 9);
+        refuses("insult(4, 3, rank) of one that is due", NOT_POSSIBLE, (x, rank) -> x.insult(4, 3, rank), 1, 9);
+        DOC.due("behind one that was settled: insult(1, 0, 5)", busy().insult(1, 0, 5), 4);
+        DOC.due("behind one that was fought: insult(2, 1, 5)", busy().insult(2, 1, 5), 4);
+        DOC.of(INSULT, "TOO_MANY if there have been 12.");
+        DOC.keeps(Towns::full, "insult(8, 9, 5)", x -> x.insult(8, 9, 5), TOO_MANY);
+        DOC.keeps(Towns::full, "behind the one that was settled: insult(0, 1, 5)", x -> x.insult(0, 1, 5), TOO_MANY);
+        DOC.keeps(Towns::full, "of an open quarrel: insult(2, 0, 5)", x -> x.insult(2, 0, 5), NOT_POSSIBLE);
+        Ways ways = Towns.proud(10);
+        for (int quarrel = 0; quarrel < 9; quarrel++) {
+            ways.insult(0, quarrel + 1, 9);
+        }
+        ways.insult(1, 2, 9);
+        ways.insult(1, 3, 9);
+        DOC.due("there have been 11: insult(1, 4, 9)", ways.insult(1, 4, 9), 11);
+        DOC.due("there have been 12: insult(1, 5, 9)", ways.insult(1, 5, 9), TOO_MANY);
+        ways.swear(1);
+        ways.settle(11, 3);
+        DOC.due("one is settled, but there have been 12: insult(1, 5, 9)", ways.insult(1, 5, 9), TOO_MANY);
+        ways.undo();
+        ways.undo();
+        DOC.due("12 still: insult(1, 5, 9)", ways.insult(1, 5, 9), TOO_MANY);
+        ways.undo();
+        DOC.due("the twelfth is undone: insult(1, 5, 9)", ways.insult(1, 5, 9), 11);
     }
 
-    private static void wordsOfSeconds() {
-        CHECKS.of("promise 7, seconds");
-        QuarrelWays ways = proudPair();
-        ways.person(0, 8);
-        ways.person(0, 9);
-        ways.insult(0, 1, 9);
-        ways.second(0, 2);
-        due("one second: quarrel(0, 7)", ways.quarrel(0, 7), 0);
-        ways.second(1, 2);
-        due("the same second: quarrel(0, 7)", ways.quarrel(0, 7), 0);
-        ways.second(1, 3);
-        due("tact 17 of 18: quarrel(0, 7)", ways.quarrel(0, 7), 0);
-        fails(ways, "settle(0, 1)", -5, x -> x.settle(0, 1));
-        ways.second(1, 0);
-        due("a second of both: quarrel(0, 7)", ways.quarrel(0, 7), 0);
-        QuarrelWays other = proudPair();
-        other.person(0, 8);
-        other.person(0, 9);
-        other.insult(0, 1, 8);
-        other.second(1, 3);
-        due("the offended one's second alone: quarrel(0, 7)", other.quarrel(0, 7), 0);
-        other.second(0, 1);
-        due("the offended one as second: quarrel(0, 7)", other.quarrel(0, 7), 0);
-        other.second(0, 2);
-        due("tact 17 of 16: quarrel(0, 7)", other.quarrel(0, 7), 2);
-        other.insult(2, 3, 9);
-        due("settle(0, 1)", other.settle(0, 1), 1);
-        due("of(2, 1)", other.of(2, 1), 9);
-        due("of(3, 1)", other.of(3, 1), 9);
-        due("of(0, 1)", other.of(0, 1), 4);
-        due("of(1, 1)", other.of(1, 1), 4);
-        due("of(0, 0)", other.of(0, 0), 9);
-        due("quarrel(0, 5)", other.quarrel(0, 5), 1);
-        QuarrelWays exact = proudPair();
-        exact.person(0, 9);
-        exact.person(0, 3);
-        exact.second(0, 2);
-        exact.second(1, 3);
-        exact.insult(1, 0, 6);
-        due("tact 12 of 12: quarrel(0, 7)", exact.quarrel(0, 7), 2);
-        exact.settle(0, 1);
-        due("of(2, 1)", exact.of(2, 1), 9);
-        due("of(3, 1)", exact.of(3, 1), 4);
-    }
-
-    /** Seconds of tact enough, even one alone, so that nothing but who they are bars the way. */
-    private static void whoTheSecondsAre() {
-        CHECKS.of("promise 7, who the seconds are");
-        QuarrelWays ways = proudPair();
-        ways.person(9, 6);
-        ways.person(9, 7);
-        ways.insult(0, 1, 1);
-        due("no second: quarrel(0, 7)", ways.quarrel(0, 7), 0);
-        ways.second(0, 2);
-        due("the offender's alone: quarrel(0, 7)", ways.quarrel(0, 7), 0);
-        ways.second(1, 2);
-        due("one for both: quarrel(0, 7)", ways.quarrel(0, 7), 0);
-        ways.second(1, 0);
-        due("the offender for the offended one: quarrel(0, 7)", ways.quarrel(0, 7), 0);
-        ways.second(0, 1);
-        due("each for the other: quarrel(0, 7)", ways.quarrel(0, 7), 0);
-        ways.second(1, 3);
-        due("the offended one for the offender: quarrel(0, 7)", ways.quarrel(0, 7), 0);
-        ways.second(0, 2);
-        due("two others: quarrel(0, 7)", ways.quarrel(0, 7), 2);
-        ways.second(2, 3);
-        ways.second(3, 2);
-        due("whoever stands by the seconds: quarrel(0, 7)", ways.quarrel(0, 7), 2);
-        due("settle(0, 1)", ways.settle(0, 1), 0);
-        due("of(2, 1)", ways.of(2, 1), 7);
-        due("of(3, 1)", ways.of(3, 1), 8);
-        due("of(0, 1)", ways.of(0, 1), 4);
-        due("of(1, 1)", ways.of(1, 1), 4);
-        QuarrelWays alone = proudPair();
-        alone.person(9, 9);
-        alone.insult(0, 1, 1);
-        alone.second(1, 2);
-        due("the offended one's alone: quarrel(0, 7)", alone.quarrel(0, 7), 0);
-    }
-
-    private static void coolingOathsAndPeace() {
-        CHECKS.of("promise 7, other ways");
-        QuarrelWays ways = proudPair();
-        ways.set(QuarrelWays.COOL, 10);
-        ways.insult(0, 1, 3);
-        ways.pass(29);
-        due("29 hours: quarrel(0, 7)", ways.quarrel(0, 7), 0);
-        fails(ways, "settle(0, 2)", -5, x -> x.settle(0, 2));
-        ways.pass(1);
-        due("30 hours: quarrel(0, 7)", ways.quarrel(0, 7), 4);
-        String before = Checks.view(ways);
-        due("settle(0, 2)", ways.settle(0, 2), 0);
-        due("of(0, 0)", ways.of(0, 0), 9);
-        due("of(0, 1)", ways.of(0, 1), 4);
-        due("count(8)", ways.count(8), 0);
-        CHECKS.holds("the quarrel is told otherwise", !before.equals(Checks.view(ways)));
-        ways.insult(1, 0, 9);
-        ways.pass(99);
-        due("peace of 99 hours: quarrel(1, 7)", ways.quarrel(1, 7), 20);
-        QuarrelWays peace = proudPair();
-        peace.set(QuarrelWays.PEACE, 5);
-        peace.swear(0);
-        peace.insult(0, 1, 9);
-        due("the offender's oath: quarrel(0, 7)", peace.quarrel(0, 7), 8);
-        due("settle(0, 3)", peace.settle(0, 3), 0);
-        due("quarrel(0, 5)", peace.quarrel(0, 5), 3);
-        due("an oath stays: of(0, 3)", peace.of(0, 3), 72);
-        peace.allow(3);
-        peace.pass(5);
-        peace.insult(1, 0, 9);
-        due("peace 5 hours ago: quarrel(1, 7)", peace.quarrel(1, 7), 16);
-        peace.person(9, 9);
-        peace.insult(0, 2, 9);
-        due("no peace with a third: quarrel(2, 7)", peace.quarrel(2, 7), 0);
-        peace.pass(1);
-        due("peace 6 hours ago: quarrel(1, 7)", peace.quarrel(1, 7), 0);
-        fails(peace, "settle(1, 4)", -5, x -> x.settle(1, 4));
-        peace.set(QuarrelWays.PEACE, 6);
-        due("settle(1, 4)", peace.settle(1, 4), 1);
-        due("quarrel(1, 5)", peace.quarrel(1, 5), 4);
-        QuarrelWays oath = proudPair();
-        oath.set(QuarrelWays.OATH, 2);
-        oath.insult(0, 1, 9);
-        oath.swear(1);
-        oath.pass(1);
-        due("the offended one's oath: quarrel(0, 7)", oath.quarrel(0, 7), 8);
-        oath.pass(1);
-        due("an oath that ran out: quarrel(0, 7)", oath.quarrel(0, 7), 0);
-        oath.set(QuarrelWays.OATH, 1);
-        oath.swear(0);
-        due("the offender's oath of an hour: quarrel(0, 7)", oath.quarrel(0, 7), 8);
-        oath.pass(1);
-        due("it ran out: quarrel(0, 7)", oath.quarrel(0, 7), 0);
-    }
+    // ---- Promise 7
 
     private static void settling() {
-        CHECKS.of("promise 7");
-        QuarrelWays ways = new QuarrelWays();
-        ways.person(0, 0);
-        ways.person(0, 0);
-        ways.person(0, 0);
-        ways.pass(8);
-        ways.insult(0, 1, 9);
-        ways.insult(1, 2, 9);
-        ways.insult(2, 0, 9);
-        fails(ways, "settle(3, 0)", -1, x -> x.settle(3, 0));
-        fails(ways, "settle(-1, 0)", -1, x -> x.settle(-1, 0));
-        fails(ways, "settle(0, 5)", -1, x -> x.settle(0, 5));
-        fails(ways, "settle(0, -1)", -1, x -> x.settle(0, -1));
-        fails(ways, "settle(0, 32)", -1, x -> x.settle(0, 32));
-        fails(ways, "settle(0, 1)", -5, x -> x.settle(0, 1));
-        ways.pass(2);
-        due("settle(1, 0)", ways.settle(1, 0), 2);
-        due("record(0, 0)", ways.record(0, 0), 1);
-        due("record(0, 1)", ways.record(0, 1), 10);
-        due("record(0, 2)", ways.record(0, 2), 1);
-        fails(ways, "settle(1, 0) again", -5, x -> x.settle(1, 0));
-        fails(ways, "settle(1, 5)", -1, x -> x.settle(1, 5));
-        due("settle(0, 0)", ways.settle(0, 0), 1);
-        due("settle(2, 0)", ways.settle(2, 0), 0);
-        due("count(5)", ways.count(5), 3);
+        DOC.of(SETTLE, "Settles a quarrel by a way.");
+        for (int way = 0; way < 5; way++) {
+            Ways ways = new Ways().people(4, 0, 9);
+            ways.second(0, 2);
+            ways.second(1, 3);
+            ways.insult(0, 1, 1);
+            ways.settle(0, 0);
+            ways.insult(1, 0, 1);
+            ways.pass(12);
+            ways.swear(1);
+            ways.settle(1, way);
+            int[] told = {1, 0, 1, 12, 1, way, NONE, 0};
+            for (int what = 0; what < told.length; what++) {
+                DOC.due("by way " + way + ": quarrel(1, " + what + ")", ways.quarrel(1, what), told[what]);
+            }
+            int[] event = {1, 12, 1};
+            for (int what = 0; what < event.length; what++) {
+                DOC.due("record(0, " + what + ")", ways.record(0, what), event[what]);
+            }
+        }
+        DOC.of(SETTLE, "This is a change.");
+        DOC.records(Towns::busy, "settle(2, 3)", x -> x.settle(2, 3));
+        DOC.records(x -> x.carryOut("p00;p00;p09;p08;s0>2;s1>3;i01/1"), "settle(0, 0)", x -> x.settle(0, 0));
+        DOC.records(x -> x.carryOut("p40;p40;p09;p08;s0>2;s1>3;i01/1"), "settle(0, 1)", x -> x.settle(0, 1));
+        DOC.of(SETTLE, "Returns how many quarrels are open then;");
+        DOC.due("settle(2, 3)", busy().settle(2, 3), 1);
+        Ways ways = new Ways().people(4, 0, 0);
+        for (int quarrel = 0; quarrel < 3; quarrel++) {
+            ways.insult(quarrel, quarrel + 1, 9);
+        }
+        DOC.due("settle(1, 0)", ways.settle(1, 0), 2);
+        DOC.due("settle(2, 0)", ways.settle(2, 0), 1);
+        DOC.due("settle(0, 0)", ways.settle(0, 0), 0);
+        Ways full = new Ways();
+        Towns.full(full);
+        DOC.due("settle(1, 3) of twelve", full.settle(1, 3), 10);
     }
+
+    private static void settlingRefused() {
+        DOC.of(SETTLE, "NO_SUCH if there is no such quarrel or way;");
+        refuses("settle(quarrel, 3)", NO_SUCH, (x, quarrel) -> x.settle(quarrel, 3), -1, 4, 12, LEAST, MOST);
+        refuses("settle(2, way)", NO_SUCH, (x, way) -> x.settle(2, way), -1, 5, 32, 35, LEAST, MOST);
+        refuses("settle(0, way) of a settled one", NO_SUCH, (x, way) -> x.settle(0, way), -1, 5);
+        DOC.due("settle(0, 0) without quarrels", new Ways().settle(0, 0), NO_SUCH);
+        DOC.keeps(Towns::full, "settle(12, 3)", x -> x.settle(12, 3), NO_SUCH);
+        DOC.of(SETTLE, "NOT_POSSIBLE if it is not open,");
+        refuses("settle(0, way), it is settled", NOT_POSSIBLE, (x, way) -> x.settle(0, way), 0, 1, 2, 3, 4);
+        refuses("settle(1, way), it is fought", NOT_POSSIBLE, (x, way) -> x.settle(1, way), 0, 1, 2, 3, 4);
+        DOC.of(SETTLE, "or the way is not open for it.");
+        refuses("settle(2, way)", NOT_POSSIBLE, (x, way) -> x.settle(2, way), 0, 1, 2, 4);
+        refuses("settle(3, way), which is due", NOT_POSSIBLE, (x, way) -> x.settle(3, way), 0, 1, 2, 3, 4);
+        DOC.keeps(x -> {
+            Towns.busy(x);
+            x.allow(3);
+        }, "settle(2, 3), barred", x -> x.settle(2, 3), NOT_POSSIBLE);
+        DOC.keeps(Towns.busyAt(96), "settle(2, 3) behind the oath", x -> x.settle(2, 3), NOT_POSSIBLE);
+        Ways ways = busy();
+        ways.pass(17);
+        DOC.due("settle(2, 3) in the oath's last hour", ways.settle(2, 3), 1);
+    }
+
+    // ---- Promise 8
 
     private static void fighting() {
-        CHECKS.of("promise 8");
-        QuarrelWays ways = new QuarrelWays();
-        ways.person(9, 5);
-        ways.person(1, 9);
-        ways.pass(3);
-        ways.insult(0, 1, 9);
-        ways.pass(23);
-        fails(ways, "fight(0) within the notice", -5, x -> x.fight(0));
-        fails(ways, "fight(1)", -1, x -> x.fight(1));
-        fails(ways, "fight(-1)", -1, x -> x.fight(-1));
-        ways.pass(1);
-        due("19 and 19, the offended one: fight(0)", ways.fight(0), 1);
-        due("of(1, 0)", ways.of(1, 0), 2);
-        due("of(0, 0)", ways.of(0, 0), 7);
-        due("of(0, 1)", ways.of(0, 1), 5);
-        due("of(1, 1)", ways.of(1, 1), 9);
-        due("of(0, 3)", ways.of(0, 3), 72);
-        due("of(1, 3)", ways.of(1, 3), 72);
-        due("quarrel(0, 4)", ways.quarrel(0, 4), 2);
-        due("quarrel(0, 5)", ways.quarrel(0, 5), -6);
-        due("quarrel(0, 6)", ways.quarrel(0, 6), 1);
-        due("record(0, 0)", ways.record(0, 0), 2);
-        due("record(0, 1)", ways.record(0, 1), 27);
-        due("record(0, 2)", ways.record(0, 2), 0);
-        due("record(1, 0)", ways.record(1, 0), 0);
-        fails(ways, "fight(0) again", -5, x -> x.fight(0));
-        ways.insult(1, 0, 9);
-        ways.pass(50);
-        fails(ways, "fight(1) under oaths", -5, x -> x.fight(1));
-        ways.pass(22);
-        due("20 and 17: fight(1)", ways.fight(1), 1);
-        due("of(1, 0)", ways.of(1, 0), 3);
-        due("of(0, 0)", ways.of(0, 0), 5);
-        QuarrelWays edges = new QuarrelWays();
-        edges.person(9, 9);
-        edges.person(1, 0);
-        edges.set(QuarrelWays.NOTICE, 0);
-        edges.set(QuarrelWays.OATH, 10);
-        edges.allow(0);
-        edges.allow(3);
-        edges.set(QuarrelWays.OATH, 200);
-        edges.swear(1);
-        edges.set(QuarrelWays.OATH, 10);
-        edges.insult(1, 0, 9);
-        due("fight(0) with notice 0", edges.fight(0), 0);
-        due("pride stays 9: of(0, 0)", edges.of(0, 0), 9);
-        due("pride stays at 0 or more: of(1, 0)", edges.of(1, 0), 0);
-        due("of(0, 3)", edges.of(0, 3), 10);
-        due("the longer oath stays: of(1, 3)", edges.of(1, 3), 200);
-        due("no event of an oath: record(0, 0)", edges.record(0, 0), 2);
-        QuarrelWays offender = new QuarrelWays();
+        DOC.of(FIGHT, "Fights a duel.");
+        Ways ways = busy();
+        ways.fight(3);
+        int[] told = {3, 4, 7, 24, 2, NONE, 4, 0};
+        for (int what = 0; what < told.length; what++) {
+            DOC.due("quarrel(3, " + what + ")", ways.quarrel(3, what), told[what]);
+        }
+        int[] event = {2, 78, 3};
+        for (int what = 0; what < event.length; what++) {
+            DOC.due("record(0, " + what + ")", ways.record(0, what), event[what]);
+        }
+        int[][] persons = {{7, 8, NONE, 72}, {9, 9, NONE, 72}};
+        for (int person = 3; person < 5; person++) {
+            for (int what = 0; what < 4; what++) {
+                DOC.due("of(" + person + ", " + what + ")", ways.of(person, what), persons[person - 3][what]);
+            }
+        }
+        DOC.of(FIGHT, "This is a change.");
+        DOC.records(Towns::busy, "fight(3)", x -> x.fight(3));
+        DOC.records(x -> x.carryOut("p94;p94;i01/9;t24"), "fight(0)", x -> x.fight(0));
+        DOC.of(FIGHT, "Returns who wins;");
+        DOC.due("fight(3)", busy().fight(3), 4);
+        Ways offender = new Ways();
+        offender.person(9, 4);
         offender.person(9, 5);
-        offender.person(8, 5);
-        offender.insult(0, 1, 9);
+        offender.insult(1, 0, 9);
         offender.pass(24);
-        due("19 and 18, the offender: fight(0)", offender.fight(0), 0);
-        due("of(1, 0)", offender.of(1, 0), 6);
+        DOC.due("the offender: fight(0)", offender.fight(0), 1);
+        DOC.of(FIGHT, "NO_SUCH if there is no such quarrel;");
+        refuses("fight(quarrel)", NO_SUCH, (x, quarrel) -> x.fight(quarrel), -1, 4, 12, LEAST, MOST);
+        DOC.due("fight(0) without quarrels", new Ways().fight(0), NO_SUCH);
+        DOC.keeps(Towns::full, "fight(12)", x -> x.fight(12), NO_SUCH);
+        DOC.of(FIGHT, "NOT_POSSIBLE if it is not due.");
+        refuses("fight(quarrel)", NOT_POSSIBLE, (x, quarrel) -> x.fight(quarrel), 0, 1, 2);
+        Ways ways23 = Towns.quarrel();
+        ways23.pass(23);
+        DOC.due("an hour early: fight(0)", ways23.fight(0), NOT_POSSIBLE);
+        ways23.pass(1);
+        DOC.due("in time: fight(0)", ways23.fight(0), 1);
+        DOC.due("again: fight(0)", ways23.fight(0), NOT_POSSIBLE);
+        Ways ways108 = Towns.quarrel();
+        ways108.wait(107);
+        DOC.due("count(4)", ways108.count(4), 1);
+        ways108.pass(1);
+        DOC.due("cooled: fight(0)", ways108.fight(0), NOT_POSSIBLE);
     }
+
+    // ---- Promise 9
 
     private static void swearing() {
-        CHECKS.of("promise 9");
-        QuarrelWays ways = proudPair();
-        ways.pass(8);
-        due("swear(1)", ways.swear(1), 80);
-        due("of(1, 3)", ways.of(1, 3), 72);
-        due("record(0, 0)", ways.record(0, 0), 3);
-        due("record(0, 1)", ways.record(0, 1), 8);
-        due("record(0, 2)", ways.record(0, 2), 1);
-        fails(ways, "swear(1) again", -5, x -> x.swear(1));
-        fails(ways, "swear(2)", -1, x -> x.swear(2));
-        fails(ways, "swear(-1)", -1, x -> x.swear(-1));
-        ways.pass(71);
-        fails(ways, "swear(1) in its last hour", -5, x -> x.swear(1));
-        ways.pass(1);
-        ways.set(QuarrelWays.OATH, 1);
-        due("swear(1) behind it", ways.swear(1), 81);
-        due("count(8)", ways.count(8), 2);
-        due("of(0, 3)", ways.of(0, 3), 0);
+        DOC.of(SWEAR, "A person swears an oath, which holds for OATH hours from now on.");
+        for (int hours : new int[] {1, 72, 200}) {
+            Ways ways = Towns.proud(3).wait(8);
+            ways.set(OATH, hours);
+            ways.swear(1);
+            DOC.due("of(1, 3)", ways.of(1, 3), hours);
+            DOC.due("of(0, 3)", ways.of(0, 3), 0);
+            DOC.due("count(8)", ways.count(8), 2);
+            int[] event = {3, 8, 1};
+            for (int what = 0; what < event.length; what++) {
+                DOC.due("record(0, " + what + ")", ways.record(0, what), event[what]);
+            }
+            ways.wait(hours);
+            DOC.due("behind it: count(8)", ways.count(8), 0);
+        }
+        DOC.of(SWEAR, "This is a change.");
+        DOC.records(Towns::busy, "swear(4)", x -> x.swear(4));
+        DOC.records(x -> x.person(1, 1), "swear(0)", x -> x.swear(0));
+        DOC.of(SWEAR, "Returns the hour until which it holds;");
+        DOC.due("at hour 0: swear(0)", Towns.proud(1).swear(0), 72);
+        DOC.due("at hour 78: swear(4)", busy().swear(4), 150);
+        DOC.due("at the last hour: swear(0)", Towns.proud(1).wait(9999).swear(0), 10071);
+        DOC.of(SWEAR, "NO_SUCH if there is no such person;");
+        refuses("swear(person)", NO_SUCH, (x, person) -> x.swear(person), -1, 5, 10, LEAST, MOST);
+        DOC.due("swear(0) without persons", new Ways().swear(0), NO_SUCH);
+        DOC.keeps(Towns::full, "swear(10)", x -> x.swear(10), NO_SUCH);
+        DOC.of(SWEAR, "NOT_POSSIBLE if the person is under an oath.");
+        refuses("swear(person) behind a duel", NOT_POSSIBLE, (x, person) -> x.swear(person), 1, 2);
+        DOC.keeps(Towns.busyAt(95), "swear(1) in the oath's last hour", x -> x.swear(1), NOT_POSSIBLE);
+        Ways ways = busy();
+        ways.pass(18);
+        DOC.due("swear(1) at its end", ways.swear(1), 168);
+        DOC.due("swear(1) again", ways.swear(1), NOT_POSSIBLE);
+        ways.set(OATH, 200);
+        DOC.due("swear(1) for longer", ways.swear(1), NOT_POSSIBLE);
     }
 
+    // ---- Promise 10
+
     private static void passing() {
-        CHECKS.of("promise 10");
-        QuarrelWays ways = proudPair();
-        ways.person(9, 0);
-        ways.insult(0, 1, 9);
-        ways.insult(1, 2, 9);
-        due("pass(1)", ways.pass(1), 0);
-        due("count(0)", ways.count(0), 1);
-        fails(ways, "pass(0)", -2, x -> x.pass(0));
-        fails(ways, "pass(-1)", -2, x -> x.pass(-1));
-        fails(ways, "pass(100)", -2, x -> x.pass(100));
-        fails(ways, "pass(most)", -2, x -> x.pass(Integer.MAX_VALUE));
-        ways.insult(2, 0, 9);
-        due("pass(22)", ways.pass(22), 0);
-        due("pass(1)", ways.pass(1), 2);
-        due("pass(1)", ways.pass(1), 3);
-        due("pass(82)", ways.pass(82), 3);
-        due("two have cooled: pass(1)", ways.pass(1), 1);
-        due("pass(1)", ways.pass(1), 0);
-        due("count(0)", ways.count(0), 109);
-        for (int day = 0; day < 99; day++) {
-            ways.pass(99);
+        DOC.of(PASS, "Hours pass.");
+        Ways ways = busy();
+        ways.pass(2);
+        DOC.due("count(0)", ways.count(0), 80);
+        DOC.due("it is no event: record(0, 1)", ways.record(0, 1), 54);
+        DOC.of(PASS, "This is a change.");
+        DOC.records(Towns::busy, "pass(1)", x -> x.pass(1));
+        DOC.records(x -> x.person(1, 1), "pass(99)", x -> x.pass(99));
+        DOC.of(PASS, "`hours`: 1 to 99");
+        ways.pass(1);
+        DOC.due("pass(1): count(0)", ways.count(0), 81);
+        ways.pass(99);
+        DOC.due("pass(99): count(0)", ways.count(0), 180);
+        DOC.of(PASS, "BAD_VALUE if hours is out of range;");
+        refuses("pass(hours)", BAD_VALUE, (x, hours) -> x.pass(hours), 0, 100, -1, LEAST, MOST, MOST - 77);
+        DOC.of(PASS, "NOT_POSSIBLE if the hour would be above 9999.");
+        DOC.keeps(Towns.busyAt(9999), "pass(1) at 9999", x -> x.pass(1), NOT_POSSIBLE);
+        DOC.keeps(Towns.busyAt(9999), "pass(99) at 9999", x -> x.pass(99), NOT_POSSIBLE);
+        DOC.keeps(Towns.busyAt(9998), "pass(2) at 9998", x -> x.pass(2), NOT_POSSIBLE);
+        DOC.keeps(Towns.busyAt(9901), "pass(99) at 9901", x -> x.pass(99), NOT_POSSIBLE);
+        int[][] last = {{9998, 1}, {9901, 98}, {9900, 99}};
+        for (int[] one : last) {
+            Ways late = new Ways().wait(one[0]);
+            DOC.due("pass(" + one[1] + ") at " + one[0], late.pass(one[1]), 0);
+            DOC.due("count(0)", late.count(0), 9999);
         }
-        due("count(0)", ways.count(0), 9910);
-        fails(ways, "pass(90)", -5, x -> x.pass(90));
-        fails(ways, "pass(100) near the end", -2, x -> x.pass(100));
-        due("pass(89)", ways.pass(89), 0);
-        due("count(0)", ways.count(0), 9999);
-        fails(ways, "pass(1) at the end", -5, x -> x.pass(1));
+    }
+
+    private static void duelsThatAreDue() {
+        DOC.of(PASS, "Returns how many duels are due then;");
+        Ways ways = Towns.proud(10);
+        for (int offended = 1; offended < 10; offended++) {
+            ways.insult(0, offended, 9);
+        }
+        for (int offended = 2; offended < 5; offended++) {
+            ways.insult(1, offended, 8);
+        }
+        DOC.due("pass(23)", ways.pass(23), 0);
+        DOC.due("pass(1), all twelve", ways.pass(1), 12);
+        DOC.due("pass(71)", ways.pass(71), 12);
+        DOC.due("pass(1), three have cooled", ways.pass(1), 9);
+        ways.fight(8);
+        DOC.due("pass(1), 0 and 9 are under an oath", ways.pass(1), 0);
+        DOC.due("pass(11), all have cooled", ways.pass(11), 0);
+        DOC.due("without quarrels: pass(99)", new Ways().pass(99), 0);
+        Ways oath = Towns.quarrel();
+        oath.set(OATH, 30);
+        oath.swear(0);
+        DOC.due("an oath holds yet: pass(29)", oath.pass(29), 0);
+        DOC.due("it holds no more: pass(1)", oath.pass(1), 1);
+        Ways peace = Towns.quarrel();
+        peace.set(PEACE, 40);
+        peace.swear(0);
+        peace.settle(0, 3);
+        peace.allow(3);
+        peace.insult(1, 0, 9);
+        DOC.due("peace holds yet: pass(40)", peace.pass(40), 0);
+        DOC.due("it holds no more: pass(1)", peace.pass(1), 1);
     }
 
     public static void main(String[] args) {
@@ -513,14 +485,13 @@ public final class ChangesTest {
         seconds();
         allowing();
         insulting();
-        apology();
-        wordsOfSeconds();
-        whoTheSecondsAre();
-        coolingOathsAndPeace();
+        insultsRefused();
         settling();
+        settlingRefused();
         fighting();
         swearing();
         passing();
-        CHECKS.end();
+        duelsThatAreDue();
+        DOC.end();
     }
 }

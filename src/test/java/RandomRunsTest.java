@@ -1,14 +1,14 @@
 import java.util.Random;
 
-/** Long runs of calls, each answer held against PlainTown's; the same runs each time. */
+/** Runs of all the calls of an object, each answer held against PlainTown's; the same runs each time. */
 public final class RandomRunsTest {
-    private static final int RUNS = 3000, CALLS = 512;
+    private static final int RUNS = 6000, PARTS = 4, MOST_OF_A_PART = 180, MOST_OF_A_STEP = 12;
     private static final int[] WILD = {-1, -2, -6, 10, 12, 15, 31, 99, 100, 181, 182, 400, 401, 9999,
         Integer.MIN_VALUE, Integer.MIN_VALUE + 1, Integer.MAX_VALUE, Integer.MAX_VALUE - 1};
     private static final Checks CHECKS = new Checks();
 
     private final Random random;
-    private final QuarrelWays real = new QuarrelWays();
+    private final Ways real = new Ways();
     private final PlainTown plain = new PlainTown();
     /** How the run is made up: some have many persons, some few; some go slow, some fast. */
     private final int crowd;
@@ -72,7 +72,7 @@ public final class RandomRunsTest {
             }
         }
         for (int from = 0; from < text.length(); from += 8) {
-            long characters = Checks.packed(text.substring(from, Math.min(text.length(), from + 8)));
+            long characters = Ways.packed(text.substring(from, Math.min(text.length(), from + 8)));
             check("put(" + characters + ")", real.put(characters), plain.put(characters));
         }
         check("fault()", real.fault(), plain.fault());
@@ -208,7 +208,17 @@ public final class RandomRunsTest {
         }
     }
 
-    private void askAll() {
+    /** All questions of a kind, with each number that is in range and the next ones on either side. */
+    private void askAll(int part) {
+        switch (part) {
+            case 0: askAllOfPersons(); return;
+            case 1: askAllOfQuarrels(); return;
+            case 2: askAllOfRecord(); return;
+            default: askAllWhatIf();
+        }
+    }
+
+    private void askAllOfPersons() {
         for (int what = -1; what <= 15; what++) {
             check("count(" + what + ")", real.count(what), plain.count(what));
         }
@@ -217,38 +227,70 @@ public final class RandomRunsTest {
                 check("of(" + person + ", " + what + ")", real.of(person, what), plain.of(person, what));
             }
         }
-        for (int number = -1; number <= 12; number++) {
+    }
+
+    private void askAllOfQuarrels() {
+        for (int quarrel = -1; quarrel <= 12; quarrel++) {
             for (int what = -1; what <= 8; what++) {
-                check("quarrel(" + number + ", " + what + ")", real.quarrel(number, what), plain.quarrel(number, what));
+                check("quarrel(" + quarrel + ", " + what + ")", real.quarrel(quarrel, what), plain.quarrel(quarrel, what));
+            }
+        }
+    }
+
+    private void askAllOfRecord() {
+        for (int number = -1; number <= 12; number++) {
+            for (int what = -1; what <= 3; what++) {
                 check("record(" + number + ", " + what + ")", real.record(number, what), plain.record(number, what));
             }
             check("pressing(" + number + ")", real.pressing(number), plain.pressing(number));
             check("insults(" + number + ")", real.insults(number), plain.insults(number));
-            check("why(" + number + ")", real.why(number), plain.why(number));
-            check("firstWay(" + number + ")", real.firstWay(number), plain.firstWay(number));
-            check("opensIn(" + number + ")", real.opensIn(number), plain.opensIn(number));
-            check("dueIn(" + number + ")", real.dueIn(number), plain.dueIn(number));
-            check("ifFought(" + number + ")", real.ifFought(number), plain.ifFought(number));
         }
     }
 
-    private void run() {
-        for (int call = 0; call < CALLS; call++) {
-            if (below(5) < 3) {
-                change();
-            } else {
-                ask();
+    private void askAllWhatIf() {
+        for (int quarrel = -1; quarrel <= 12; quarrel++) {
+            check("why(" + quarrel + ")", real.why(quarrel), plain.why(quarrel));
+            check("firstWay(" + quarrel + ")", real.firstWay(quarrel), plain.firstWay(quarrel));
+            check("opensIn(" + quarrel + ")", real.opensIn(quarrel), plain.opensIn(quarrel));
+            check("dueIn(" + quarrel + ")", real.dueIn(quarrel), plain.dueIn(quarrel));
+            check("ifFought(" + quarrel + ")", real.ifFought(quarrel), plain.ifFought(quarrel));
+        }
+        for (int offender = -1; offender <= 5; offender++) {
+            for (int offended = -1; offended <= 5; offended++) {
+                int rank = some(10);
+                check("ifInsulted(" + offender + ", " + offended + ", " + rank + ")",
+                    real.ifInsulted(offender, offended, rank), plain.ifInsulted(offender, offended, rank));
             }
-            if (call % 128 == 127) {
-                askAll();
-            }
+        }
+    }
+
+    private void step() {
+        if (below(5) < 3) {
+            change();
+        } else {
+            ask();
+        }
+    }
+
+    /** Steps, at some time all questions of a kind, and steps again until all calls of an object are made. */
+    private void run(int part) {
+        int pause = below(Ways.MOST_CALLS - MOST_OF_A_PART - MOST_OF_A_STEP);
+        while (real.calls() < pause) {
+            step();
+        }
+        askAll(part);
+        while (real.calls() <= Ways.MOST_CALLS - MOST_OF_A_STEP) {
+            step();
+        }
+        while (real.calls() < Ways.MOST_CALLS) {
+            ask();
         }
     }
 
     public static void main(String[] args) {
         for (int seed = 0; seed < RUNS; seed++) {
             CHECKS.of("run " + seed);
-            new RandomRunsTest(seed).run();
+            new RandomRunsTest(seed).run(seed % PARTS);
         }
         CHECKS.end();
     }

@@ -1,8 +1,8 @@
 import java.lang.management.ManagementFactory;
 
-/** All calls of a run share one room: once an object stands and its slots are used, no call makes anything. */
+/** All calls of a run share one room, so an object with its 512 calls may take little of it. */
 public final class RoomTest {
-    private static final int MOST_BYTES_OF_AN_OBJECT = 16 * 1024;
+    private static final int OBJECTS = 60, MOST_BYTES = 16 * 1024;
     private static final Checks CHECKS = new Checks();
 
     private static long bytes() {
@@ -10,7 +10,7 @@ public final class RoomTest {
     }
 
     /** Each method, with arguments that reach all its branches over some rounds. */
-    private static void callAll(QuarrelWays ways, int round) {
+    private static void callAll(Ways ways, int round) {
         ways.set(round % 5, 20);
         ways.person(9, round % 10);
         ways.second(round % 4, round % 3);
@@ -43,30 +43,34 @@ public final class RoomTest {
         ways.save(round % 2);
         ways.restore(round % 2);
         ways.undo();
-        ways.undo();
+    }
+
+    private static Ways run(int number) {
+        Ways ways = new Ways();
+        ways.people(4, 9, 9);
+        ways.insult(0, 1, 9);
+        ways.save(0);
+        ways.save(1);
+        for (int round = 0; ways.calls() < Ways.MOST_CALLS - 130; round++) {
+            callAll(ways, 3 * number + round);
+        }
+        while (ways.calls() < Ways.MOST_CALLS) {
+            ways.swear(0);
+        }
+        return ways;
     }
 
     public static void main(String[] args) {
-        QuarrelWays first = new QuarrelWays();
-        for (int round = 0; round < 20; round++) {
-            callAll(first, round);
-        }
+        run(0);
         bytes();
-
         CHECKS.of("room");
-        long before = bytes();
-        QuarrelWays ways = new QuarrelWays();
-        ways.save(0);
-        ways.save(1);
-        long made = bytes() - before;
-        CHECKS.holds("an object takes " + made + " bytes", made <= MOST_BYTES_OF_AN_OBJECT);
-
-        before = bytes();
-        for (int round = 0; round < 200; round++) {
-            callAll(ways, round);
+        for (int number = 0; number < OBJECTS; number++) {
+            long before = bytes();
+            Ways ways = run(number);
+            long used = bytes() - before;
+            CHECKS.due("calls of run " + number, ways.calls(), Ways.MOST_CALLS);
+            CHECKS.holds("run " + number + " takes " + used + " bytes, at most " + MOST_BYTES, used <= MOST_BYTES);
         }
-        long used = bytes() - before;
-        CHECKS.holds("calls take " + used + " bytes", used <= 1024);
         CHECKS.end();
     }
 }
