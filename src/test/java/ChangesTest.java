@@ -87,7 +87,7 @@ public final class ChangesTest {
 
     private static void persons() {
         DOC.of(PERSON, "A person comes.");
-        Ways ways = new Ways().wait(6);
+        Ways ways = new Ways().later(6);
         ways.person(3, 7);
         int[] told = {3, 7, NONE, 0, 0, 0, 0, 0, 0};
         for (int what = 0; what < told.length; what++) {
@@ -369,7 +369,7 @@ public final class ChangesTest {
         DOC.due("in time: fight(0)", ways23.fight(0), 1);
         DOC.due("again: fight(0)", ways23.fight(0), NOT_POSSIBLE);
         Ways ways108 = Towns.quarrel();
-        ways108.wait(107);
+        ways108.later(107);
         DOC.due("count(4)", ways108.count(4), 1);
         ways108.pass(1);
         DOC.due("cooled: fight(0)", ways108.fight(0), NOT_POSSIBLE);
@@ -380,7 +380,7 @@ public final class ChangesTest {
     private static void swearing() {
         DOC.of(SWEAR, "A person swears an oath, which holds for OATH hours from now on.");
         for (int hours : new int[] {1, 72, 200}) {
-            Ways ways = Towns.proud(3).wait(8);
+            Ways ways = Towns.proud(3).later(8);
             ways.set(OATH, hours);
             ways.swear(1);
             DOC.due("of(1, 3)", ways.of(1, 3), hours);
@@ -390,7 +390,7 @@ public final class ChangesTest {
             for (int what = 0; what < event.length; what++) {
                 DOC.due("record(0, " + what + ")", ways.record(0, what), event[what]);
             }
-            ways.wait(hours);
+            ways.later(hours);
             DOC.due("behind it: count(8)", ways.count(8), 0);
         }
         DOC.of(SWEAR, "This is a change.");
@@ -399,7 +399,7 @@ public final class ChangesTest {
         DOC.of(SWEAR, "Returns the hour until which it holds;");
         DOC.due("at hour 0: swear(0)", Towns.proud(1).swear(0), 72);
         DOC.due("at hour 78: swear(4)", busy().swear(4), 150);
-        DOC.due("at the last hour: swear(0)", Towns.proud(1).wait(9999).swear(0), 10071);
+        DOC.due("at the last hour: swear(0)", Towns.proud(1).later(9999).swear(0), 10071);
         DOC.of(SWEAR, "NO_SUCH if there is no such person;");
         refuses("swear(person)", NO_SUCH, (x, person) -> x.swear(person), -1, 5, 10, LEAST, MOST);
         DOC.due("swear(0) without persons", new Ways().swear(0), NO_SUCH);
@@ -440,7 +440,7 @@ public final class ChangesTest {
         DOC.keeps(Towns.busyAt(9901), "pass(99) at 9901", x -> x.pass(99), NOT_POSSIBLE);
         int[][] last = {{9998, 1}, {9901, 98}, {9900, 99}};
         for (int[] one : last) {
-            Ways late = new Ways().wait(one[0]);
+            Ways late = new Ways().later(one[0]);
             DOC.due("pass(" + one[1] + ") at " + one[0], late.pass(one[1]), 0);
             DOC.due("count(0)", late.count(0), 9999);
         }

@@ -27,6 +27,10 @@ class Checks {
         System.out.println(part + ": not so: " + what);
     }
 
+    final int answers() {
+        return right + wrong;
+    }
+
     void end() {
         System.out.println(right + " answers as due, " + wrong + " not as due");
         if (wrong != 0) {

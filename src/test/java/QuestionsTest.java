@@ -39,7 +39,6 @@ public final class QuestionsTest {
         int[][] told = {
             {0, 4, 3, 0, 1, 0, 0, 0, 0}, {7, 4, 4, 18, 1, 1, 0, 1, 0}, {9, 5, NONE, 18, 1, 1, 1, 1, 0},
             {9, 8, NONE, 0, 1, 1, 0, 0, 1}, {9, 9, NONE, 0, 0, 1, 0, 0, 2}};
-        DOC.of(OF, "Returns the number;");
         for (int person = 0; person < told.length; person++) {
             for (int what = 0; what < told[person].length; what++) {
                 int number = person;
@@ -47,6 +46,9 @@ public final class QuestionsTest {
                 DOC.keeps(Towns::busy, "of(" + person + ", " + what + ")", x -> x.of(number, asked), told[person][what]);
             }
         }
+        DOC.of(OF, "Returns the number;");
+        DOC.due("the last person: of(9, 1)", full().of(9, 1), 4);
+        DOC.due("the most that can be asked: of(4, 8)", busy().of(4, 8), 2);
         DOC.of(OF, "NO_SUCH if there is no such person;");
         refuses("of(person, 0)", NO_SUCH, (x, person) -> x.of(person, 0), -1, 5, 10, NONE, LEAST, MOST);
         refuses("of(5, what)", NO_SUCH, (x, what) -> x.of(5, what), -1, 2, 8, 9);
@@ -80,13 +82,13 @@ public final class QuestionsTest {
         ways.set(OATH, 200);
         ways.swear(0);
         DOC.due("of(0, 3)", ways.of(0, 3), 200);
-        ways.wait(199);
+        ways.later(199);
         DOC.due("in its last hour: of(0, 3)", ways.of(0, 3), 1);
         ways.pass(1);
         DOC.due("at its end: of(0, 3)", ways.of(0, 3), 0);
         ways.pass(1);
         DOC.due("behind it, none: of(0, 3)", ways.of(0, 3), 0);
-        ways.wait(300);
+        ways.later(300);
         DOC.due("long behind it: of(0, 3)", ways.of(0, 3), 0);
     }
 
@@ -158,7 +160,6 @@ public final class QuestionsTest {
         DOC.of(QUARREL, "Returns something about a quarrel.");
         int[][] told = {{0, 1, 8, 78, 1, 0, NONE, 0}, {1, 2, 9, 78, 2, NONE, 2, 0}, {2, 3, 9, 24, 0, NONE, NONE, 8},
             {3, 4, 7, 24, 0, NONE, NONE, 0}};
-        DOC.of(QUARREL, "Returns the number;");
         for (int quarrel = 0; quarrel < told.length; quarrel++) {
             for (int what = 0; what < told[quarrel].length; what++) {
                 int number = quarrel;
@@ -166,6 +167,9 @@ public final class QuestionsTest {
                 DOC.keeps(Towns::busy, "quarrel(" + quarrel + ", " + what + ")", x -> x.quarrel(number, asked), told[quarrel][what]);
             }
         }
+        DOC.of(QUARREL, "Returns the number;");
+        DOC.due("the last quarrel: quarrel(11, 0)", full().quarrel(11, 0), 1);
+        DOC.due("the most that can be asked: quarrel(2, 7)", busy().quarrel(2, 7), 8);
         DOC.of(QUARREL, "NO_SUCH if there is no such quarrel;");
         refuses("quarrel(quarrel, 0)", NO_SUCH, (x, quarrel) -> x.quarrel(quarrel, 0), -1, 4, 12, LEAST, MOST);
         refuses("quarrel(4, what)", NO_SUCH, (x, what) -> x.quarrel(4, what), -1, 5, 6, 7, 8);
@@ -194,14 +198,14 @@ public final class QuestionsTest {
         }
         ways.swear(0);
         ways.settle(0, 3);
-        ways.wait(72);
+        ways.later(72);
         ways.fight(1);
         DOC.due("settled: quarrel(0, 4)", ways.quarrel(0, 4), 1);
         DOC.due("fought: quarrel(1, 4)", ways.quarrel(1, 4), 2);
         DOC.due("hours go on when it is settled: quarrel(0, 3)", ways.quarrel(0, 3), 75);
         DOC.due("hours go on when it is fought: quarrel(1, 3)", ways.quarrel(1, 3), 75);
         Ways late = Towns.quarrel();
-        late.wait(9999);
+        late.later(9999);
         DOC.due("at the last hour: quarrel(0, 3)", late.quarrel(0, 3), 9999);
     }
 
@@ -227,6 +231,83 @@ public final class QuestionsTest {
         Ways first = new Ways();
         first.carryOut("p94;p93;i01/9;t24;f0");
         DOC.due("0 won: quarrel(0, 6)", first.quarrel(0, 6), 0);
+    }
+
+    /** Twelve quarrels of other persons each, by turns fought, settled by an oath, and settled when it is cool. */
+    private static void twelveEnds() {
+        DOC.of(QUARREL, "5 the way by which it was settled (NONE), 6 who won (NONE if it was not fought),");
+        int[][] pairs = {{0, 3}, {1, 4}, {2, 5}, {9, 6}, {0, 4}, {1, 5}, {9, 2}, {3, 6}, {4, 7}, {5, 8}, {0, 9}, {1, 9}};
+        Ways ways = new Ways();
+        for (int person = 0; person < 10; person++) {
+            ways.person(9, person);
+        }
+        ways.set(COOL, 1);
+        ways.set(NOTICE, 0);
+        ways.set(OATH, 1);
+        for (int quarrel = 0; quarrel < 12; quarrel++) {
+            ways.insult(pairs[quarrel][0], pairs[quarrel][1], 9);
+            if (quarrel % 3 == 0) {
+                ways.fight(quarrel);
+            } else if (quarrel % 3 == 1) {
+                ways.swear(pairs[quarrel][0]);
+                ways.settle(quarrel, 3);
+            } else {
+                ways.pass(9);
+                ways.settle(quarrel, 2);
+            }
+            ways.pass(1);
+        }
+        int hour = 0;
+        for (int quarrel = 0; quarrel < 12; quarrel++) {
+            boolean fought = quarrel % 3 == 0;
+            int way = quarrel % 3 == 1 ? 3 : 2;
+            int winner = Math.max(pairs[quarrel][0], pairs[quarrel][1]);
+            int[] told = {pairs[quarrel][0], pairs[quarrel][1], 9, 48 - hour, fought ? 2 : 1, fought ? NONE : way, fought ? winner : NONE, 0};
+            for (int what = 0; what < told.length; what++) {
+                DOC.due("quarrel(" + quarrel + ", " + what + ")", ways.quarrel(quarrel, what), told[what]);
+            }
+            hour += quarrel % 3 == 2 ? 10 : 1;
+        }
+        DOC.due("record(0, 0)", ways.record(0, 0), 1);
+        DOC.due("record(0, 1)", ways.record(0, 1), 47);
+        DOC.due("record(0, 2)", ways.record(0, 2), 11);
+        DOC.due("record(11, 0)", ways.record(11, 0), 0);
+        DOC.due("record(11, 1)", ways.record(11, 1), 25);
+        DOC.due("record(11, 2)", ways.record(11, 2), 7);
+    }
+
+    /** The latest of twelve quarrels is settled first, so that none is changed by those that were before it. */
+    private static void twelveEndsInReverse() {
+        DOC.of(QUARREL, "5 the way by which it was settled (NONE),");
+        int[][] pairs = {{0, 3}, {1, 4}, {2, 5}, {9, 6}, {0, 4}, {1, 5}, {9, 2}, {3, 6}, {4, 7}, {5, 8}, {0, 9}, {1, 9}};
+        Ways ways = Towns.proud(10);
+        ways.set(COOL, 1);
+        ways.set(PEACE, 20);
+        for (int[] pair : pairs) {
+            ways.insult(pair[0], pair[1], 9);
+        }
+        for (int person = 0; person < 10; person++) {
+            ways.swear(person);
+        }
+        ways.pass(9);
+        for (int quarrel = 11; quarrel >= 0; quarrel--) {
+            DOC.due("settle(" + quarrel + ", " + (2 + quarrel % 2) + ")", ways.settle(quarrel, 2 + quarrel % 2), quarrel);
+            ways.pass(1);
+        }
+        for (int quarrel = 0; quarrel < 12; quarrel++) {
+            DOC.due("quarrel(" + quarrel + ", 5)", ways.quarrel(quarrel, 5), 2 + quarrel % 2);
+            DOC.due("quarrel(" + quarrel + ", 6)", ways.quarrel(quarrel, 6), NONE);
+        }
+        ways.allow(3);
+        ways.pass(7);
+        for (int hour = 28; hour <= 42; hour++) {
+            for (int quarrel = 0; quarrel < 12; quarrel++) {
+                int[] pair = pairs[quarrel];
+                int peace = hour - (20 - quarrel) <= 20 ? 16 : 0;
+                DOC.due("quarrel " + quarrel + " at " + hour + ": ifInsulted()", ways.ifInsulted(pair[1], pair[0], 9), peace);
+            }
+            ways.pass(1);
+        }
     }
 
     private static void waysOfQuarrels() {
@@ -257,7 +338,6 @@ public final class QuestionsTest {
     private static void records() {
         DOC.of(RECORD, "Returns something of the record.");
         int[][] told = {{0, 54, 3}, {0, 54, 2}, {2, 24, 1}, {0, 0, 1}, {1, 0, 0}, {0, 0, 0}, {3, 0, 0}};
-        DOC.of(RECORD, "Returns the number;");
         for (int rank = 0; rank < told.length; rank++) {
             for (int what = 0; what < 3; what++) {
                 int number = rank;
@@ -265,6 +345,9 @@ public final class QuestionsTest {
                 DOC.keeps(Towns::busy, "record(" + rank + ", " + what + ")", x -> x.record(number, asked), told[rank][what]);
             }
         }
+        DOC.of(RECORD, "Returns the number;");
+        DOC.due("the oldest event: record(6, 0)", busy().record(6, 0), 3);
+        DOC.due("the most that can be asked: record(2, 2)", busy().record(2, 2), 1);
         DOC.of(RECORD, "`rank`: 0 for the latest one");
         Ways ways = busy();
         ways.swear(4);
@@ -343,7 +426,7 @@ public final class QuestionsTest {
         pressingOrder("24, 27, 18 and 16", close, 1, 0, 2, 3);
         Ways old = Towns.quarrel();
         old.people(1, 9, 4);
-        old.wait(9999);
+        old.later(9999);
         old.insult(0, 2, 9);
         pressingOrder("90000 and 9", old, 0, 1);
         Ways twelve = Towns.proud(6);
@@ -401,11 +484,13 @@ public final class QuestionsTest {
     private static void counts() {
         DOC.of(COUNT, "Returns a number.");
         int[] told = {78, 5, 4, 12, 8, 1, 1, 31, 6, 12, 24, 72, 100, 5, 6};
-        DOC.of(COUNT, "Returns the number;");
         for (int what = 0; what < told.length; what++) {
             int asked = what;
             DOC.keeps(Towns::busy, "count(" + what + ")", x -> x.count(asked), told[what]);
         }
+        DOC.of(COUNT, "Returns the number;");
+        DOC.due("count(0)", busy().count(0), 78);
+        DOC.due("the most that can be asked: count(14)", busy().count(14), 6);
         DOC.of(COUNT, "BAD_VALUE if what is out of range.");
         refuses("count(what)", BAD_VALUE, (x, what) -> x.count(what), -1, 15, 16, LEAST, MOST);
         DOC.due("of a new object: count(15)", new Ways().count(15), BAD_VALUE);
@@ -421,7 +506,7 @@ public final class QuestionsTest {
         DOC.of(COUNT, "0 the hour, 1 persons, 2 quarrels so far, 3 open ones, as a set, 4 those that are due, as a set,");
         count(new Ways(), 0, 0, 0, 0, 0);
         Ways ways = Towns.proud(10);
-        ways.wait(9975);
+        ways.later(9975);
         ways.carryOut("i01/9;i02/9;i03/9;i04/9;i05/9;i12/9;i13/9;i14/9;i15/9;i23/9;i24/9;i25/9");
         count(ways, 9975, 10, 12, 4095, 0);
         ways.pass(24);
@@ -525,7 +610,7 @@ public final class QuestionsTest {
         DOC.due("fought: why(0)", fought.why(0), 1);
         DOC.of(WHY, "2 a way is open;");
         Ways cooled = Towns.quarrel();
-        cooled.wait(107);
+        cooled.later(107);
         DOC.due("an hour before it is cool: why(0)", cooled.why(0), 0);
         cooled.pass(1);
         DOC.due("cool: why(0)", cooled.why(0), 2);
@@ -582,11 +667,11 @@ public final class QuestionsTest {
         DOC.of(OPENS_IN, "Tells in how many hours, 0 or more, some way is open for a quarrel, if nothing else is done.");
         Ways ways = Towns.quarrel();
         DOC.due("opensIn(0)", ways.opensIn(0), 108);
-        ways.wait(107);
+        ways.later(107);
         DOC.due("an hour before: opensIn(0)", ways.opensIn(0), 1);
         ways.pass(1);
         DOC.due("open: opensIn(0)", ways.opensIn(0), 0);
-        ways.wait(300);
+        ways.later(300);
         DOC.due("open for long: opensIn(0)", ways.opensIn(0), 0);
         Ways oath = Towns.quarrel();
         oath.swear(1);
@@ -628,13 +713,13 @@ public final class QuestionsTest {
         far.allow(2);
         DOC.due("cooling is barred, so never: opensIn(0)", far.opensIn(0), NONE);
         far.allow(2);
-        far.wait(31);
+        far.later(31);
         DOC.due("opensIn(0)", far.opensIn(0), 401);
-        Ways last = Towns.proud(2).wait(9999);
+        Ways last = Towns.proud(2).later(9999);
         last.set(COOL, 48);
         last.insult(0, 1, 9);
         DOC.due("behind the last hour that pass() reaches: opensIn(0)", last.opensIn(0), 432);
-        Ways before = Towns.proud(2).wait(9891);
+        Ways before = Towns.proud(2).later(9891);
         before.insult(0, 1, 9);
         DOC.due("at that hour: opensIn(0)", before.opensIn(0), 108);
         before.pass(1);
@@ -672,7 +757,7 @@ public final class QuestionsTest {
         DOC.due("due for an hour, then: dueIn(0)", now.dueIn(0), NONE);
         now.set(NOTICE, 98);
         DOC.due("due for an hour: dueIn(0)", now.dueIn(0), 98);
-        now.wait(98);
+        now.later(98);
         DOC.due("now: why(0)", now.why(0), 0);
         now.pass(1);
         DOC.due("and no more: why(0)", now.why(0), 2);
@@ -764,7 +849,7 @@ public final class QuestionsTest {
         DOC.due("it is cool before: dueIn(1)", far.dueIn(1), NONE);
         far.set(COOL, 48);
         DOC.due("it is cool later: dueIn(1)", far.dueIn(1), 401);
-        Ways last = Towns.proud(2).wait(9999);
+        Ways last = Towns.proud(2).later(9999);
         last.set(OATH, 200);
         last.insult(0, 1, 9);
         DOC.due("behind the last hour that pass() reaches: dueIn(0)", last.dueIn(0), 24);
@@ -802,7 +887,7 @@ public final class QuestionsTest {
         Ways ways = Towns.proud(4);
         ways.set(COOL, 1);
         ways.insult(0, 1, 1);
-        ways.wait(99);
+        ways.later(99);
         DOC.due("the old one is cool, a new one would not be: ifInsulted(0, 1, 1)", ways.ifInsulted(0, 1, 1), 0);
         ways.second(0, 2);
         ways.second(1, 3);
@@ -896,6 +981,8 @@ public final class QuestionsTest {
         quarrels();
         whatQuarrelsAre();
         endsOfQuarrels();
+        twelveEnds();
+        twelveEndsInReverse();
         waysOfQuarrels();
         records();
         recordsRefused();

@@ -52,6 +52,8 @@ final class Sentences extends Checks {
     private final Map<String, List<Sentence>> sections = read();
     private final String[] taken;
     private int tests = 0;
+    /** How many answers there were when the last test had begun. */
+    private int begun = -1;
 
     Sentences(String... taken) {
         this.taken = taken;
@@ -86,6 +88,7 @@ final class Sentences extends Checks {
 
     /** Begins the test of a sentence, of a part of one, or of some that stand one behind the other. */
     void of(String section, String words) {
+        endTest();
         of(section + ", '" + words + "'");
         tests++;
         boolean stands = false;
@@ -95,6 +98,13 @@ final class Sentences extends Checks {
             sentence.tested |= at >= 0 && at < sentence.to && at + words.length() > sentence.from;
         }
         holds("it stands in the document", stands);
+        begun = answers();
+    }
+
+    private void endTest() {
+        if (begun == answers()) {
+            holds("the test has an answer", false);
+        }
     }
 
     /** A call answers so, and nothing at all is changed by it: a call that is refused, or a question. */
@@ -128,6 +138,7 @@ final class Sentences extends Checks {
 
     @Override
     void end() {
+        endTest();
         for (String section : taken) {
             of(section);
             List<Sentence> sentences = sections.getOrDefault(section, List.of());

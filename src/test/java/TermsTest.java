@@ -219,9 +219,9 @@ public final class TermsTest {
             ways.allow(0);
             ways.set(COOL, one[0]);
             ways.insult(0, 1, one[1]);
-            ways.wait(one[2] - 1);
+            ways.later(one[2] - 1);
             DOC.due("an hour early: quarrel(0, 7)", ways.quarrel(0, 7), 0);
-            ways.wait(1);
+            ways.later(1);
             DOC.due("in time: quarrel(0, 7)", ways.quarrel(0, 7), 4);
         }
         Ways later = Towns.quarrel();
@@ -237,7 +237,7 @@ public final class TermsTest {
         for (int hours : new int[] {1, 24, 99}) {
             Ways ways = Towns.quarrel();
             ways.set(NOTICE, hours);
-            ways.wait(hours - 1);
+            ways.later(hours - 1);
             DOC.due("an hour early: why(0)", ways.why(0), 3);
             ways.pass(1);
             DOC.due("in time: why(0)", ways.why(0), 0);
@@ -257,7 +257,7 @@ public final class TermsTest {
             DOC.due("swear(0)", ways.swear(0), hours);
             ways.set(OATH, 50);
             DOC.due("as long as it was sworn for: of(0, 3)", ways.of(0, 3), hours);
-            ways.wait(hours - 1);
+            ways.later(hours - 1);
             DOC.due("in its last hour: count(8)", ways.count(8), 1);
             ways.pass(1);
             DOC.due("behind it: count(8)", ways.count(8), 0);
@@ -274,7 +274,7 @@ public final class TermsTest {
             ways.insult(0, 1, 9);
             ways.settle(0, 0);
             ways.allow(0);
-            ways.wait(hours);
+            ways.later(hours);
             DOC.due("in its last hour: ifInsulted(0, 1, 9)", ways.ifInsulted(0, 1, 9), 16);
             ways.pass(1);
             DOC.due("behind it: ifInsulted(0, 1, 9)", ways.ifInsulted(0, 1, 9), 0);
@@ -322,7 +322,7 @@ public final class TermsTest {
         DOC.due("of(1, 2)", ways.of(1, 2), NONE);
         DOC.keeps(Towns::busy, "second(0, 0)", x -> x.second(0, 0), BAD_VALUE);
         DOC.of(PERSONS, "and the hour until which an oath holds (0 at first: none).");
-        Ways late = new Ways().wait(500).people(1, 5, 5);
+        Ways late = new Ways().later(500).people(1, 5, 5);
         DOC.due("of(0, 3)", late.of(0, 3), 0);
         DOC.due("count(8)", late.count(8), 0);
         DOC.due("swear(0)", late.swear(0), 572);
@@ -403,6 +403,16 @@ public final class TermsTest {
         DOC.of(PERSONS, "Two persons have at most one open quarrel.");
         DOC.keeps(Towns::busy, "insult(2, 3, 1) of an open quarrel", x -> x.insult(2, 3, 1), NOT_POSSIBLE);
         DOC.keeps(Towns::busy, "insult(3, 2, 1), the other way round", x -> x.insult(3, 2, 1), NOT_POSSIBLE);
+        DOC.keeps(x -> x.carryOut("p94;p94;i01/9"), "insult(0, 1, 1) of the first one", x -> x.insult(0, 1, 1), NOT_POSSIBLE);
+        DOC.keeps(x -> x.carryOut("p94;p94;i01/9"), "insult(1, 0, 1) of the first one", x -> x.insult(1, 0, 1), NOT_POSSIBLE);
+        Ways full = new Ways();
+        Towns.full(full);
+        for (int quarrel = 1; quarrel < 12; quarrel++) {
+            int offender = full.quarrel(quarrel, 0);
+            int offended = full.quarrel(quarrel, 1);
+            DOC.due("quarrel " + quarrel + " again", full.insult(offender, offended, 1), NOT_POSSIBLE);
+            DOC.due("quarrel " + quarrel + ", the other way round", full.insult(offended, offender, 1), NOT_POSSIBLE);
+        }
         Ways ways = new Ways();
         Towns.busy(ways);
         DOC.due("of two others", ways.insult(2, 4, 9), 4);

@@ -414,7 +414,7 @@ public final class TextsTest {
         carriesOut("a5;t1", 0, x -> { });
         carriesOut("a4;a9;t1", 1, x -> x.allow(4));
         carriesOut("p00;p00;p00;p00;p00;p00;t1", 5, x -> x.people(5, 0, 0));
-        Ways late = new Ways().wait(9990);
+        Ways late = new Ways().later(9990);
         DOC.due("up to the last hour: carryOut()", late.carryOut("t5;t4;t1;a0"), 2);
         DOC.due("count(0)", late.count(0), 9999);
         DOC.due("count(7)", late.count(7), 31);

@@ -58,7 +58,7 @@ final class Towns {
     static Sentences.Start busyAt(int hour) {
         return ways -> {
             busy(ways);
-            ways.wait(hour - 78);
+            ways.later(hour - 78);
         };
     }
 }

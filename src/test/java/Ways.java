@@ -151,7 +151,7 @@ final class Ways {
     }
 
     /** Lets any number of hours pass. */
-    Ways wait(int hours) {
+    Ways later(int hours) {
         for (int left = hours; left > 0; left -= 99) {
             pass(Math.min(left, 99));
         }

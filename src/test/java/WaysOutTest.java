@@ -13,9 +13,9 @@ public final class WaysOutTest {
         DOC.due(state + ": quarrel(" + quarrel + ", 7)", ways.quarrel(quarrel, 7), due);
     }
 
-    /** Persons 0 to 3 of no pride, 2 and 3 the seconds of 0 and 1; 0 and 1 have made peace, and 0 swore. */
+    /** Quarrel 1 of 1 against 0, with seconds 3 and 2, behind a settled one, 12 hours old; 0 is under an oath. */
     private static void allWays(Ways ways) {
-        ways.people(4, 0, 9);
+        ways.people(4, 1, 8);
         ways.second(0, 2);
         ways.second(1, 3);
         ways.insult(0, 1, 1);
@@ -241,6 +241,18 @@ public final class WaysOutTest {
         ways("the later one of two", ways, 2, OLD_PEACE);
         ways.pass(1);
         ways("too long ago, both", ways, 2, 0);
+        Ways twelve = new Ways().people(2, 0, 0);
+        twelve.set(PEACE, 5);
+        for (int quarrel = 0; quarrel < 12; quarrel++) {
+            twelve.insult(0, 1, 9);
+            twelve.settle(quarrel, 0);
+            twelve.allow(0);
+            twelve.pass(5);
+            DOC.due("by quarrel " + quarrel + ": ifInsulted(1, 0, 9)", twelve.ifInsulted(1, 0, 9), OLD_PEACE);
+            twelve.pass(1);
+            DOC.due("an hour more: ifInsulted(1, 0, 9)", twelve.ifInsulted(1, 0, 9), 0);
+            twelve.allow(0);
+        }
         Ways now = settled();
         now.set(PEACE, 0);
         now.insult(0, 1, 9);
@@ -342,10 +354,11 @@ public final class WaysOutTest {
             Ways ways = new Ways();
             allWays(ways);
             ways.settle(1, way);
+            int[] prides = {0, 1, 1, 1};
             int[] oaths = {60, 0, 0, 0};
             for (int person = 0; person < 4; person++) {
-                DOC.due("by way " + way + ": of(" + person + ", 0)", ways.of(person, 0), 0);
-                DOC.due("by way " + way + ": of(" + person + ", 1)", ways.of(person, 1), 9);
+                DOC.due("by way " + way + ": of(" + person + ", 0)", ways.of(person, 0), prides[person]);
+                DOC.due("by way " + way + ": of(" + person + ", 1)", ways.of(person, 1), 8);
                 DOC.due("by way " + way + ": of(" + person + ", 3)", ways.of(person, 3), oaths[person]);
             }
             DOC.due("quarrel(1, 6)", ways.quarrel(1, 6), NONE);
@@ -353,12 +366,15 @@ public final class WaysOutTest {
             DOC.due("count(7)", ways.count(7), 31);
             DOC.due("one event alone: record(1, 0)", ways.record(1, 0), 0);
         }
-        Ways ways = new Ways().people(2, 3, 3);
-        ways.insult(0, 1, 1);
-        ways.wait(99);
-        ways.settle(0, 2);
-        DOC.due("pride stays where an apology was open, too: of(0, 0)", ways.of(0, 0), 3);
-        DOC.due("of(0, 1)", ways.of(0, 1), 3);
+        Ways apology = new Ways();
+        allWays(apology);
+        apology.settle(1, 0);
+        DOC.due("by an apology, the seconds: of(2, 1)", apology.of(2, 1), 8);
+        DOC.due("by an apology, the seconds: of(3, 1)", apology.of(3, 1), 8);
+        Ways seconds = new Ways();
+        allWays(seconds);
+        seconds.settle(1, 1);
+        DOC.due("by the seconds, the offender: of(1, 0)", seconds.of(1, 0), 1);
     }
 
     // ---- Fighting
