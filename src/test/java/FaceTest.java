@@ -1,7 +1,10 @@
+import java.io.IOException;
 import java.lang.reflect.Constructor;
 import java.lang.reflect.Field;
 import java.lang.reflect.Method;
 import java.lang.reflect.Modifier;
+import java.nio.file.Files;
+import java.nio.file.Path;
 import java.util.ArrayList;
 import java.util.Arrays;
 import java.util.Collections;
@@ -21,7 +24,7 @@ public final class FaceTest {
         "NO_SUCH=-1", "BAD_VALUE=-2", "BAD_TEXT=-3", "TOO_MANY=-4", "NOT_POSSIBLE=-5", "NONE=-6",
         "COOL=0", "NOTICE=1", "OATH=2", "PEACE=3"};
 
-    private static final Checks CHECKS = new Checks();
+    private static final Sentences CHECKS = new Sentences("The public face");
 
     private static String face(Method method) {
         List<String> kinds = new ArrayList<>();
@@ -38,7 +41,27 @@ public final class FaceTest {
         CHECKS.holds(what + " are " + got + ", due are " + sorted, got.equals(sorted));
     }
 
-    public static void main(String[] args) throws IllegalAccessException {
+    /** Each line of the face stands in the class as the document writes it, and in its order. */
+    private static void asTheDocumentWritesIt() throws IOException {
+        String document = Files.readString(Path.of("../shared/DOC.md"));
+        int from = document.indexOf("```java\n");
+        int to = document.indexOf("\n```", Math.max(0, from));
+        CHECKS.of("the document's face");
+        CHECKS.holds("the document lists a face", from >= 0 && to > from);
+        String[] lines = document.substring(from, to).split("\n");
+        CHECKS.due("lines", lines.length - 1, METHODS.length + 5);
+        String source = Files.readString(Path.of("src/main/java/QuarrelWays.java"));
+        int behind = 0;
+        for (int line = 1; line < lines.length; line++) {
+            CHECKS.of("The public face", lines[line].trim());
+            int at = source.indexOf(lines[line].replace(");", ") {") + "\n", behind);
+            CHECKS.holds("it stands in the class, in its order", at >= 0);
+            behind = Math.max(behind, at);
+        }
+    }
+
+    public static void main(String[] args) throws IllegalAccessException, IOException {
+        asTheDocumentWritesIt();
         CHECKS.of("face");
         Class<?> face = QuarrelWays.class;
         CHECKS.holds("public final class", Modifier.isPublic(face.getModifiers()) && Modifier.isFinal(face.getModifiers()));

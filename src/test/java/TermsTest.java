@@ -3,7 +3,7 @@ public final class TermsTest {
     private static final int NO_SUCH = -1, BAD_VALUE = -2, BAD_TEXT = -3, TOO_MANY = -4, NOT_POSSIBLE = -5, NONE = -6;
     private static final int COOL = 0, NOTICE = 1, OATH = 2, PEACE = 3;
     private static final String PERSONS = "Settings";
-    private static final Sentences DOC = new Sentences("Terms", "Settings");
+    private static final Sentences DOC = new Sentences("What it is", "Terms", "Settings");
 
     // ---- What it is
 
@@ -21,8 +21,61 @@ public final class TermsTest {
         }
     }
 
+    /** One town, through all that the first line names. */
+    private static void firstLine() {
+        DOC.of("What it is", "Duelling code that finds a way out of nearly each quarrel: persons with pride, tact, seconds and oaths, ");
+        Ways ways = new Ways().people(1, 9, 4).people(1, 2, 5).people(1, 1, 8).people(1, 0, 9);
+        DOC.due("of(0, 0)", ways.of(0, 0), 9);
+        DOC.due("of(0, 1)", ways.of(0, 1), 4);
+        DOC.due("second(0, 2)", ways.second(0, 2), NONE);
+        DOC.due("swear(3)", ways.swear(3), 72);
+        DOC.of("What it is", "insults by rank, quarrels that are open, ways out that a code allows, ");
+        DOC.due("insult(0, 1, 7)", ways.insult(0, 1, 7), 0);
+        DOC.due("count(3)", ways.count(3), 1);
+        DOC.due("quarrel(0, 7)", ways.quarrel(0, 7), 0);
+        DOC.due("why(0)", ways.why(0), 3);
+        DOC.due("opensIn(0)", ways.opensIn(0), 84);
+        DOC.due("dueIn(0)", ways.dueIn(0), 24);
+        DOC.of("What it is", "apologies, words of seconds, cooling by hours, oaths, peace that was made before, ");
+        DOC.due("second(1, 3)", ways.second(1, 3), NONE);
+        DOC.due("settle(0, 1)", ways.settle(0, 1), 0);
+        DOC.due("ifInsulted(1, 0, 9)", ways.ifInsulted(1, 0, 9), 18);
+        DOC.due("insult(1, 0, 3)", ways.insult(1, 0, 3), 1);
+        DOC.due("settle(1, 0)", ways.settle(1, 0), 0);
+        DOC.due("insult(0, 3, 9)", ways.insult(0, 3, 9), 2);
+        DOC.due("settle(2, 3)", ways.settle(2, 3), 0);
+        DOC.due("insult(0, 2, 1)", ways.insult(0, 2, 1), 3);
+        DOC.due("pass(12)", ways.pass(12), 0);
+        DOC.due("settle(3, 2)", ways.settle(3, 2), 0);
+        DOC.of("What it is", "duels that are due if no way is open, duels that are fought and their ends, a record, quarrels by how they press, ");
+        DOC.due("insult(0, 2, 9)", ways.insult(0, 2, 9), 4);
+        DOC.due("quarrel(4, 7)", ways.quarrel(4, 7), 16);
+        DOC.due("allow(4)", ways.allow(4), 15);
+        DOC.due("pass(24)", ways.pass(24), 1);
+        DOC.due("fight(4)", ways.fight(4), 2);
+        DOC.due("of(0, 0)", ways.of(0, 0), 7);
+        DOC.due("record(0, 0)", ways.record(0, 0), 2);
+        DOC.due("insult(1, 3, 5)", ways.insult(1, 3, 5), 5);
+        DOC.due("insult(2, 3, 6)", ways.insult(2, 3, 6), 6);
+        DOC.due("pressing(0)", ways.pressing(0), 6);
+        DOC.of("What it is", "insults by rank, why a quarrel is not due, when a way opens, when a duel is due, what an insult would bring, ");
+        DOC.due("insults(7)", ways.insults(7), 3);
+        DOC.due("why(6)", ways.why(6), 2);
+        DOC.due("opensIn(6)", ways.opensIn(6), 0);
+        DOC.due("dueIn(6)", ways.dueIn(6), NONE);
+        DOC.due("ifInsulted(0, 1, 9)", ways.ifInsulted(0, 1, 9), 10);
+        DOC.of("What it is", "codes that are read from texts, undo, and saved states.");
+        DOC.due("carryOut()", ways.carryOut("a4;t1"), 2);
+        DOC.due("undo()", ways.undo(), 5);
+        DOC.due("count(7)", ways.count(7), 15);
+        DOC.due("save(0)", ways.save(0), 7);
+        ways.pass(1);
+        DOC.due("restore(0)", ways.restore(0), 7);
+        DOC.due("count(0)", ways.count(0), 36);
+    }
+
     private static void theLastCalls() {
-        DOC.of("What it is", "An object is used for at most 512 calls after it has been made;");
+        DOC.of("What it is", "An object is used for at most 512 calls after it has been made; what later calls answer is free.");
         for (int method = 0; method < EACH.length; method++) {
             Ways late = new Ways();
             Towns.busy(late);
@@ -423,6 +476,7 @@ public final class TermsTest {
     }
 
     public static void main(String[] args) {
+        firstLine();
         theLastCalls();
         errorCodes();
         orderOfErrors();
